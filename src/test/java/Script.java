@@ -1,0 +1,116 @@
+import java.util.List;
+
+/**
+ * A program written as text, to be built by calls: "(LOCAL:0 5 (PRINT v0))" is open(8, 0, 0), num(5),
+ * open(14, 0, 0), name(0), close(), close(). Operands that are not written are 0.
+ */
+final class Script {
+    static final long NIL = 4294967296L;
+    static final long FUNCTION = 4294967297L;
+    static final long COROUTINE = 4294967298L;
+    static final long NOTHING = -4294967296L;
+
+    private static final List<String> KINDS = List.of("ADD", "SUB", "MUL", "LESS", "SAME", "IF", "SEQ", "WHILE",
+            "LOCAL", "SET", "FUNC", "CALL", "RETURN", "ERROR", "PRINT", "CREATE", "RESUME", "YIELD", "STATUS", "FAULT");
+
+    private final Due due;
+    private final String text;
+    final CoroutineScript object;
+
+    /** A new object of depth 6 and fuel 200 with the program built and run. */
+    Script(Due due, String text) {
+        this(due, 6, 200, text);
+    }
+
+    Script(Due due, int depth, int fuel, String text) {
+        this.due = due;
+        this.text = text;
+        this.object = new CoroutineScript(depth, fuel);
+        build(due, object, text);
+        object.run();
+    }
+
+    static int kind(String word) {
+        int op = KINDS.indexOf(word);
+        if (op < 0) {
+            throw new IllegalArgumentException("no kind of lists: " + word);
+        }
+        return op;
+    }
+
+    /** Makes the calls that the text stands for; each of them is due to be taken. */
+    static void build(Due due, CoroutineScript object, String text) {
+        for (String token : text.replace("(", " (").replace(")", " ) ").trim().split("\\s+")) {
+            due.is(text + ": the call of " + token, call(object, token), true);
+        }
+    }
+
+    private static boolean call(CoroutineScript object, String token) {
+        if (token.equals(")")) {
+            return object.close();
+        }
+        if (token.startsWith("v")) {
+            return object.name(Integer.parseInt(token.substring(1)));
+        }
+        if (!token.startsWith("(")) {
+            return object.num(Integer.parseInt(token));
+        }
+        String[] words = token.substring(1).split(":");
+        int a = words.length > 1 ? Integer.parseInt(words[1]) : 0;
+        int b = words.length > 2 ? Integer.parseInt(words[2]) : 0;
+        return object.open(kind(words[0]), a, b);
+    }
+
+    /** The run was OK with this number. */
+    Script gives(int number) {
+        ended(1, number, 0, -1);
+        return this;
+    }
+
+    /** The run was OK with a value of this kind, which is no number. */
+    Script givesKind(int kind) {
+        ended(kind, 0, 0, -1);
+        return this;
+    }
+
+    Script fails(int code, int node) {
+        ended(-1, 0, code, node);
+        due.is(text + ": run() again", object.run(), CoroutineScript.FAILED);
+        return this;
+    }
+
+    Script endsWithFuel() {
+        ended(-1, 0, 0, -1);
+        due.is(text + ": run() again", object.run(), CoroutineScript.FUEL);
+        return this;
+    }
+
+    private void ended(int kind, int value, int error, int place) {
+        due.is(text + ": kind()", object.kind(), kind);
+        due.is(text + ": value()", object.value(), value);
+        due.is(text + ": error()", object.error(), error);
+        due.is(text + ": place()", object.place(), place);
+    }
+
+    Script beats(int beats) {
+        due.is(text + ": beats()", object.beats(), beats);
+        return this;
+    }
+
+    Script made(int functions, int coroutines, int variables) {
+        due.is(text + ": made(0)", object.made(0), functions);
+        due.is(text + ": made(1)", object.made(1), coroutines);
+        due.is(text + ": made(2)", object.made(2), variables);
+        return this;
+    }
+
+    /** These are all that was printed. */
+    Script prints(long... values) {
+        due.is(text + ": printed()", object.printed(), values.length);
+        for (int k = 0; k < values.length; k++) {
+            due.is(text + ": output(" + k + ")", object.output(k), values[k]);
+        }
+        due.is(text + ": output(" + values.length + ")", object.output(values.length), NOTHING);
+        return this;
+    }
+}
