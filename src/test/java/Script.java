@@ -15,6 +15,7 @@ final class Script {
 
     private final Due due;
     private final String text;
+    private final int answer;
     final CoroutineScript object;
 
     /** A new object of depth 6 and fuel 200 with the program built and run. */
@@ -27,7 +28,7 @@ final class Script {
         this.text = text;
         this.object = new CoroutineScript(depth, fuel);
         build(due, object, text);
-        object.run();
+        answer = object.run();
     }
 
     static int kind(String word) {
@@ -63,29 +64,28 @@ final class Script {
 
     /** The run was OK with this number. */
     Script gives(int number) {
-        ended(1, number, 0, -1);
+        ended(CoroutineScript.OK, 1, number, 0, -1);
         return this;
     }
 
     /** The run was OK with a value of this kind, which is no number. */
     Script givesKind(int kind) {
-        ended(kind, 0, 0, -1);
+        ended(CoroutineScript.OK, kind, 0, 0, -1);
         return this;
     }
 
     Script fails(int code, int node) {
-        ended(-1, 0, code, node);
-        due.is(text + ": run() again", object.run(), CoroutineScript.FAILED);
+        ended(CoroutineScript.FAILED, -1, 0, code, node);
         return this;
     }
 
     Script endsWithFuel() {
-        ended(-1, 0, 0, -1);
-        due.is(text + ": run() again", object.run(), CoroutineScript.FUEL);
+        ended(CoroutineScript.FUEL, -1, 0, 0, -1);
         return this;
     }
 
-    private void ended(int kind, int value, int error, int place) {
+    private void ended(int run, int kind, int value, int error, int place) {
+        due.is(text + ": run()", answer, run);
         due.is(text + ": kind()", object.kind(), kind);
         due.is(text + ": value()", object.value(), value);
         due.is(text + ": error()", object.error(), error);
