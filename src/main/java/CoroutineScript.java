@@ -360,7 +360,6 @@ public final class CoroutineScript {
         nodeB[nodes] = b;
         nodeParts[nodes] = 0;
         nodeFirst[nodes] = NONE;
-        nodeLast[nodes] = NONE;
         nodeNext[nodes] = NONE;
         nodes++;
     }

@@ -15,6 +15,7 @@ public final class AnswersTest {
         printedAndOutput();
         made();
         eachRunStartsAnew();
+        runAfterOneThatEndedInACoroutine();
         DUE.end();
     }
 
@@ -198,5 +199,25 @@ public final class AnswersTest {
         DUE.is("made(0) after that", x.made(0), 2);
         DUE.is("made(1) after that", x.made(1), 0);
         DUE.is("made(2) after that", x.made(2), 0);
+    }
+
+    /** The runs before end with calls in progress, in a coroutine that runs and in one that waits. */
+    private static void runAfterOneThatEndedInACoroutine() {
+        CoroutineScript x = new CoroutineScript(2, 6);
+        Script.build(DUE, x, "(LOCAL:0 (FUNC:1:1 (CALL (FUNC:2:0 (YIELD v1) (WHILE 1)))) (LOCAL:3 (CREATE v0)"
+                + " (PRINT (RESUME v3 4)) (PRINT (RESUME (CREATE v0) 5)) (RESUME v3 6)))");
+        for (int time = 0; time < 3; time++) {
+            DUE.is("run() that ends in a coroutine", x.run(), CoroutineScript.FUEL);
+            DUE.is("kind() of it", x.kind(), -1);
+            DUE.is("error() of it", x.error(), 0);
+            DUE.is("place() of it", x.place(), -1);
+            DUE.is("beats() of it", x.beats(), 6);
+            DUE.is("printed() of it", x.printed(), 2);
+            DUE.is("output(1) of it", x.output(1), 5);
+        }
+        x.drop();
+        Script.build(DUE, x, "(YIELD 1)");
+        DUE.is("run() outside of all coroutines again", x.run(), CoroutineScript.FAILED);
+        DUE.is("error() outside of all coroutines again", x.error(), 6);
     }
 }

@@ -13,6 +13,7 @@ public final class LimitsTest {
         variablesAtMostByResume();
         limitInThePlaceOfTheBeat();
         limitsInsideCoroutines();
+        deepestLists();
         DUE.end();
     }
 
@@ -119,5 +120,18 @@ public final class LimitsTest {
         script(afterVariables(120, "(RESUME (CREATE (FUNC:0:0 (CALL (FUNC:1:1) 1))) 2) (FAULT)")).gives(7);
         script("(SEQ (RESUME (CREATE (FUNC:0:0 (WHILE 1 (FUNC:0:0)))) 2) (FAULT))").gives(7).made(40, 1, 0).beats(41);
         script("(SEQ (RESUME (CREATE (FUNC:0:0 (WHILE 1 (CREATE (FUNC:0:0))))) 2) (FAULT))").gives(7).made(7, 6, 0).beats(7);
+    }
+
+    /** As many lists inside each other as can be open, in each of as many calls as the depth allows, in each coroutine. */
+    private static void deepestLists() {
+        String inner = "(SEQ ".repeat(12) + "(CALL v0)" + ")".repeat(12);
+        String outer = "(SEQ ".repeat(14) + "(CALL v0)" + ")".repeat(14);
+        script("(LOCAL:0 0 (SET:0 (FUNC:1:0 " + inner + ")) " + outer + ")").fails(4, 16).beats(6);
+        script("(LOCAL:0 0 (SET:0 (FUNC:1:0 " + inner + ")) (LOCAL:1 0 (WHILE (LESS v1 6) (PRINT (RESUME (CREATE v0) 0))"
+                + " (PRINT (FAULT)) (SET:1 (ADD v1 1)))) 5)").gives(5).made(1, 6, 2).beats(43)
+                .prints(Script.NIL, 4, Script.NIL, 4, Script.NIL, 4, Script.NIL, 4, Script.NIL, 4, Script.NIL, 4);
+        // A RETURN from the deepest place ends one call alone.
+        String counted = "(SEQ ".repeat(9) + "(IF (LESS v1 6) (ADD 1 (CALL v0 (ADD v1 1))) (RETURN 100))" + ")".repeat(9);
+        script("(LOCAL:0 0 (SET:0 (FUNC:1:1 " + counted + ")) (CALL v0 1))").gives(105).beats(6).made(1, 0, 7);
     }
 }
