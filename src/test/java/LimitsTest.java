@@ -1,6 +1,7 @@
 /** Promises 7, 12 and 15: beats and fuel, and how many functions, coroutines and variables one run can make. */
 public final class LimitsTest {
     private static final Due DUE = new Due();
+    private static final int REST = Script.REST;
 
     public static void main(String[] args) {
         fuelIsLookedAtFirst();
@@ -21,13 +22,9 @@ public final class LimitsTest {
         return new Script(DUE, text);
     }
 
-    /** A LOCAL 7 as a counter, and a loop that makes so many variables more; then the rest. Its root is node 0. */
     private static String afterVariables(int variables, String rest) {
-        return "(LOCAL:7 1 (WHILE (LESS v7 " + variables + ") (LOCAL:6 (SET:7 (ADD v7 1)))) " + rest + ")";
+        return Script.afterVariables(variables, rest);
     }
-
-    /** The number of the first node of the rest. */
-    private static final int REST = 11;
 
     private static void fuelIsLookedAtFirst() {
         new Script(DUE, 6, 2, "(SEQ (WHILE 0) (WHILE 0))").givesKind(0).beats(2);

@@ -2,13 +2,15 @@ import java.util.List;
 
 /**
  * A program written as text, to be built by calls: "(LOCAL:0 5 (PRINT v0))" is open(8, 0, 0), num(5),
- * open(14, 0, 0), name(0), close(), close(). Operands that are not written are 0.
+ * open(14, 0, 0), name(0), close(), close(). Operands that are not written are 0. A kind can be written as its
+ * number too: "(14 5)".
  */
 final class Script {
     static final long NIL = 4294967296L;
     static final long FUNCTION = 4294967297L;
     static final long COROUTINE = 4294967298L;
     static final long NOTHING = -4294967296L;
+    static final int REST = 11;
 
     private static final List<String> KINDS = List.of("ADD", "SUB", "MUL", "LESS", "SAME", "IF", "SEQ", "WHILE",
             "LOCAL", "SET", "FUNC", "CALL", "RETURN", "ERROR", "PRINT", "CREATE", "RESUME", "YIELD", "STATUS", "FAULT");
@@ -32,6 +34,9 @@ final class Script {
     }
 
     static int kind(String word) {
+        if (word.matches("-?[0-9]+")) {
+            return Integer.parseInt(word);
+        }
         int op = KINDS.indexOf(word);
         if (op < 0) {
             throw new IllegalArgumentException("no kind of lists: " + word);
@@ -41,8 +46,19 @@ final class Script {
 
     /** Makes the calls that the text stands for; each of them is due to be taken. */
     static void build(Due due, CoroutineScript object, String text) {
+        calls(due, object, text, true);
+    }
+
+    /** The same calls, but each of them is due to be refused. */
+    static void refuse(Due due, CoroutineScript object, String text) {
+        calls(due, object, text, false);
+    }
+
+    private static void calls(Due due, CoroutineScript object, String text, boolean taken) {
         for (String token : text.replace("(", " (").replace(")", " ) ").trim().split("\\s+")) {
-            due.is(text + ": the call of " + token, call(object, token), true);
+            if (!token.isEmpty()) {
+                due.is(text + ": the call of " + token, call(object, token), taken);
+            }
         }
     }
 
@@ -60,6 +76,26 @@ final class Script {
         int a = words.length > 1 ? Integer.parseInt(words[1]) : 0;
         int b = words.length > 2 ? Integer.parseInt(words[2]) : 0;
         return object.open(kind(words[0]), a, b);
+    }
+
+    /** A program that makes so many variables, with as many beats, and then evaluates the rest: the nodes from REST on. */
+    static String afterVariables(int variables, String rest) {
+        return "(LOCAL:7 1 (WHILE (LESS v7 " + variables + ") (LOCAL:6 (SET:7 (ADD v7 1)))) " + rest + ")";
+    }
+
+    /** All that the object answers of its latest run. */
+    static String answers(CoroutineScript object) {
+        StringBuilder all = new StringBuilder("kind " + object.kind() + ", value " + object.value());
+        all.append(", error " + object.error() + ", place " + object.place());
+        all.append(", beats " + object.beats() + ", printed " + object.printed() + ", made");
+        for (int what = -1; what <= 3; what++) {
+            all.append(" " + object.made(what));
+        }
+        all.append(", output");
+        for (int k = -1; k <= 25; k++) {
+            all.append(" " + object.output(k));
+        }
+        return all.toString();
     }
 
     /** The run was OK with this number. */
