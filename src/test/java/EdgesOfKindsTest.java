@@ -28,6 +28,7 @@ public final class EdgesOfKindsTest {
         funcSeesTheVariablesThereAreNow();
         callOfNoFunction();
         callWithAnotherNumberOfArguments();
+        callErrorsInTheirOrder();
         callsInProgressInTheProgram();
         callsInProgressInACoroutine();
         callsThatHaveEnded();
@@ -262,6 +263,19 @@ public final class EdgesOfKindsTest {
         }
     }
 
+    private static void callErrorsInTheirOrder() {
+        DUE.sentence("No function: error 2. Another number of arguments ..: error 3. .. as the depth allows: error 4. Else a beat");
+        // The depth is used up in each of these, and in the second ones the fuel too.
+        for (int fuel = 2; fuel >= 1; fuel--) {
+            new Script(DUE, 1, fuel, "(CALL (FUNC:0:0 (CALL 7 1)))").fails(2, 2).beats(1);
+            new Script(DUE, 1, fuel, "(CALL (FUNC:0:0 (CALL (FUNC:0:0) 1)))").fails(3, 2).beats(1);
+            new Script(DUE, 1, fuel, "(CALL (FUNC:0:0 (CALL (FUNC:0:1))))").fails(3, 2).beats(1);
+            new Script(DUE, 1, fuel, "(CALL (FUNC:0:0 (CALL (FUNC:0:1) 1)))").fails(4, 2).beats(1).made(2, 0, 0);
+        }
+        new Script(DUE, 2, 1, "(CALL (FUNC:0:0 (CALL (FUNC:0:1) 1)))").endsWithFuel().beats(1).made(2, 0, 0);
+        new Script(DUE, 2, 2, "(CALL (FUNC:0:0 (CALL (FUNC:0:1) 1)))").givesKind(0).beats(2).made(2, 0, 1);
+    }
+
     /** A function v0 that calls itself until so many of its calls are in progress, and then gives that number. */
     private static String nested(int calls, String start) {
         return "(LOCAL:0 0 (SET:0 (FUNC:1:1 (IF (LESS v1 " + calls + ") (CALL v0 (ADD v1 1)) v1))) " + start + ")";
@@ -310,6 +324,12 @@ public final class EdgesOfKindsTest {
         script("(CALL (FUNC:0:0 (CALL (FUNC:0:1 (PRINT 9)) (RETURN 3)) (PRINT 9)))").gives(3).prints();
         script("(CALL (FUNC:0:0 (WHILE 1 (IF 1 (LOCAL:0 (RETURN (SEQ)) 1) 2))))").givesKind(0).beats(2).made(1, 0, 0);
         script("(CALL (FUNC:0:0 (RETURN (RETURN 5))))").gives(5);
+        // Calls that have ended, at whatever depth of lists, are in progress no more.
+        for (int lists = 0; lists <= 5; lists++) {
+            String ended = "(SEQ ".repeat(lists) + "(CALL (FUNC:0:0 2))" + ")".repeat(lists);
+            script("(CALL (FUNC:0:0 " + ended + " (RETURN 3) (PRINT 9)))").gives(3).prints();
+            script("(SEQ " + ended + " (RETURN 3) (PRINT 9))").gives(3).prints();
+        }
         // The call that a coroutine has first is the innermost one there: it ends, and the calls around the RESUME do not.
         script("(CALL (FUNC:0:0 (LOCAL:1 (CREATE (FUNC:0:0 (SEQ (RETURN 3)) (PRINT 9))) (PRINT (RESUME v1 0))"
                 + " (PRINT (STATUS v1)) 4)))").gives(4).prints(3, 2);

@@ -295,10 +295,14 @@ public final class EdgesOfRunsTest {
     private static void runAgain() {
         DUE.sentence("runs it (it stays, and can be run again)");
         String[] texts = {"5", "(LOCAL:0 3 (PRINT v0) (SET:0 (ADD v0 1)))", "(WHILE (PRINT 1))",
-            "(LOCAL:0 (PRINT 2) (CALL (FUNC:1:1 (ERROR v1)) v0))", "(RESUME (CREATE (FUNC:0:0 (WHILE 1))) 0)",
-            "(SEQ (PRINT (FAULT)) (RESUME (CREATE (FUNC:0:0 (ERROR 3))) 0))"};
+            "(LOCAL:0 (PRINT 2) (CALL (FUNC:1:1 (CALL (FUNC:2:0 (ERROR v1)))) v0))",
+            "(CALL (FUNC:0:0 (CALL (FUNC:0:0 (WHILE 1)))))",
+            "(RESUME (CREATE (FUNC:0:0 (CALL (FUNC:0:0 (WHILE 1))))) 0)",
+            "(RESUME (CREATE (FUNC:0:0 (CALL (FUNC:0:0 (YIELD 1))))) 0)",
+            "(SEQ (PRINT (FAULT)) (RESUME (CREATE (FUNC:0:0 (CALL (FUNC:0:0 (ERROR 3))))) 0) (FAULT))"};
         for (String text : texts) {
-            CoroutineScript x = new CoroutineScript(6, 200);
+            // All calls that the depth allows are in progress where the run ends.
+            CoroutineScript x = new CoroutineScript(2, 200);
             Script.build(DUE, x, text);
             int first = x.run();
             String answers = Script.answers(x);
@@ -364,7 +368,8 @@ public final class EdgesOfRunsTest {
                 + " -1 if it did not fail");
         CoroutineScript x = new CoroutineScript(6, 200);
         String[][] texts = {{"(ERROR 5)", "5", "0"}, {"(SEQ)", "0", "-1"}, {"(ERROR 0)", "0", "0"}, {"(WHILE 1)", "0", "-1"},
-            {"(SEQ 1 (ERROR -2147483648))", "-2147483648", "2"}, {"(RESUME (CREATE (FUNC:0:0 (ERROR 5))) 0)", "0", "-1"},
+            {"(SEQ 1 (ERROR -2147483648))", "-2147483648", "2"}, {"(WHILE 2)", "0", "-1"},
+            {"(RESUME (CREATE (FUNC:0:0 (ERROR 5))) 0)", "0", "-1"},
             {"(SEQ (SEQ) (ERROR 2147483647))", "2147483647", "2"}, {"(WHILE 0)", "0", "-1"},
             {"(SEQ" + " 1".repeat(93) + " (ERROR 5))", "5", "94"}, {"7", "0", "-1"}};
         DUE.is("error() before any run", x.error(), 0);
