@@ -9,6 +9,9 @@ public final class EdgesOfBuildingTest {
     private static final int[] LEAST = {2, 2, 2, 2, 2, 3, 0, 1, 1, 1, 0, 1, 1, 1, 1, 1, 2, 1, 1, 0};
     private static final int ANY = 1000;
     private static final int[] MOST = {2, 2, 2, 2, 2, 3, ANY, ANY, ANY, 1, ANY, 4, 1, 1, 1, 1, 2, 1, 1, 0};
+    // These end in each way, and each answer of one of them differs from that before any run.
+    private static final String[] RUNS = {"(LOCAL:0 (PRINT 6) (WHILE 0) v0)", "(LOCAL:0 (PRINT 5) (WHILE 0) (ERROR 8))",
+        "(LOCAL:0 (CREATE (FUNC:0:0)) (WHILE 0) (PRINT v0))", "(CALL (FUNC:0:3 (PRINT v2) (WHILE 1)) 7 8 9)"};
     private static final String ANY_NODE = "1 v0 (SEQ (FAULT (FUNC:0:0";
 
     public static void main(String[] args) {
@@ -18,6 +21,9 @@ public final class EdgesOfBuildingTest {
         beginsInsideTheInnermostOrAsRoot();
         completeWithANodeAndNoOpenList();
         refusedIfComplete();
+        refusedAgainAndAgain();
+        refusedCallsKeepTheAnswers();
+        takenCallsKeepTheAnswers();
         partsAllowed();
         partsOfPartsDoNotCount();
         partsAllowedAreManyForSome();
@@ -125,9 +131,70 @@ public final class EdgesOfBuildingTest {
         for (String text : new String[] {"1", "(SEQ)", "(FUNC:0:3)", "(LOCAL:0 1 v0)", "(SEQ 1 (ERROR 5))",
             "(WHILE 1 (PRINT 2))"}) {
             refused(text, ANY_NODE + ")", "");
-            CoroutineScript x = built(text);
-            x.run();
-            Script.refuse(DUE, x, ANY_NODE + ")");
+            Script.refuse(DUE, hasRun(text), ANY_NODE + ")");
+        }
+    }
+
+    private static void refusedAgainAndAgain() {
+        DUE.sentence("refused (they answer false and change nothing)");
+        refused("", "v0 ) (20 (SET:0 ".repeat(50), "(ERROR 4)");
+        refused("5", "1 v0 (SEQ ) ".repeat(50), "");
+        refused("(SEQ 1)", "1 v0 (SEQ ) ".repeat(50), "");
+        refused("(LOCAL:0 (SEQ", "v0 (SET:0 ".repeat(100), "1) v0)");
+        refused("(SEQ (PRINT 4", "5 (SEQ v0 ".repeat(60), ") 6)");
+        refused("(SEQ (FAULT", "1 (SEQ v0 ".repeat(60), "))");
+        refused("(IF 0 2", ") ".repeat(200), "3)");
+        refused("(CALL", ") ".repeat(200), "(FUNC:0:0 3))");
+        refused("(SEQ".repeat(16), "(SEQ ".repeat(200), "5" + ")".repeat(16));
+        refused("(LOCAL:0" + " 1".repeat(94) + "(ADD", "1 v0 (SEQ ) ".repeat(50), "");
+        refused("(LOCAL:0" + " 1".repeat(93) + "(WHILE 0", "1 v0 (SEQ ".repeat(60), "))");
+    }
+
+    private static CoroutineScript hasRun(String text) {
+        CoroutineScript x = built(text);
+        x.run();
+        return x;
+    }
+
+    private static void answersStay(CoroutineScript x, String before, String what) {
+        String after = Script.answers(x);
+        DUE.is(what + ": that the answers are " + before + " and not " + after, after.equals(before), true);
+    }
+
+    private static void refusedCallsKeepTheAnswers() {
+        DUE.sentence("refused (they answer false and change nothing)");
+        String[][] programs = {{"(LOCAL:0", ") v0 (SET:0 (20 (-1 (LOCAL:8 (FUNC:0:4"}, {"(LOCAL:0 1 (CALL v0", "v1 (SET:1 (20 (FUNC:6:3"},
+            {"(FAULT", "1 v0 (SEQ"}, {"(SEQ".repeat(16), "(SEQ v0"}, {"(SEQ" + " 1".repeat(95), "1 v0 (SEQ"},
+            {"(SEQ)", "1 v0 (SEQ )"}, {"5", "1 v0 (SEQ )"}};
+        for (String text : RUNS) {
+            keepAnswers(hasRun(text), text, ANY_NODE + " )");
+            for (String[] program : programs) {
+                CoroutineScript x = hasRun(text);
+                x.drop();
+                Script.build(DUE, x, program[0]);
+                keepAnswers(x, text + ", drop and " + program[0], program[1]);
+            }
+        }
+    }
+
+    private static void keepAnswers(CoroutineScript x, String what, String refused) {
+        String answers = Script.answers(x);
+        for (String call : refused.split(" ")) {
+            Script.refuse(DUE, x, call);
+            answersStay(x, answers, what + " and a refused " + call);
+        }
+    }
+
+    private static void takenCallsKeepTheAnswers() {
+        DUE.sentence("Of the latest run that was not INCOMPLETE");
+        for (String text : RUNS) {
+            CoroutineScript x = hasRun(text);
+            String answers = Script.answers(x);
+            x.drop();
+            for (String call : "(LOCAL:0 1 v0 (SET:0 (SEQ ) ) (FUNC:1:3 v1 ) )".split(" ")) {
+                Script.build(DUE, x, call);
+                answersStay(x, answers, text + ", drop and another program up to " + call);
+            }
         }
     }
 
@@ -311,14 +378,13 @@ public final class EdgesOfBuildingTest {
 
     private static void dropKeepsTheAnswers() {
         DUE.sentence("Of the latest run that was not INCOMPLETE");
-        for (String text : new String[] {"(PRINT 6)", "(LOCAL:0 (PRINT 5) (ERROR 8))", "(WHILE (CREATE (FUNC:0:0)))",
-            "(WHILE 1)"}) {
-            CoroutineScript x = built(text);
-            x.run();
+        for (String text : RUNS) {
+            CoroutineScript x = hasRun(text);
             String before = Script.answers(x);
             x.drop();
-            String after = Script.answers(x);
-            DUE.is(text + ": that after drop the answers are " + before + " and not " + after, after.equals(before), true);
+            answersStay(x, before, text + " and drop");
+            x.drop();
+            answersStay(x, before, text + " and drop twice");
         }
     }
 }

@@ -19,6 +19,7 @@ public final class EdgesOfCoroutinesTest {
         endByAnError();
         yieldOutside();
         yieldInside();
+        yieldInEachKind();
         yieldGoesToTheResumeThatLetItRun();
         statusOfNoCoroutine();
         status();
@@ -178,6 +179,28 @@ public final class EdgesOfCoroutinesTest {
                 + " (PRINT (STATUS v0)) (RESUME v0 4))").gives(14).prints(0, 14).beats(3);
         script("(LOCAL:0 (CREATE (FUNC:1:0 (YIELD (YIELD (YIELD 1))))) (PRINT (RESUME v0 2)) (PRINT (RESUME v0 3))"
                 + " (PRINT (RESUME v0 4)) (PRINT (RESUME v0 5)) (STATUS v0))").gives(2).prints(1, 3, 4, 5).beats(4);
+    }
+
+    private static void yieldInEachKind() {
+        DUE.sentence("the value of the YIELD is that of the next RESUME's v");
+        String[][] lists = {{"(ADD (YIELD 1) 10)", "15"}, {"(SUB 10 (YIELD 1))", "5"}, {"(MUL (YIELD 1) (YIELD 2))", "2"},
+            {"(LESS 4 (YIELD 1))", "1"}, {"(SAME (YIELD 1) 5)", "1"}, {"(IF (YIELD 1) 7 8)", "7"}, {"(IF 1 (YIELD 1) 8)", "5"},
+            {"(IF 0 7 (YIELD 1))", "5"}, {"(SEQ (YIELD 1))", "5"}, {"(SEQ (YIELD 1) 8)", "8"},
+            {"(WHILE (YIELD 1) (RETURN 8))", "8"}, {"(WHILE 1 (RETURN (YIELD 1)))", "5"},
+            {"(LOCAL:2 (YIELD 1) (ADD v2 1))", "6"}, {"(LOCAL:2 7 (YIELD 1))", "5"}, {"(LOCAL:2 7 (SET:2 (YIELD 1)) v2)", "5"},
+            {"(CALL (FUNC:2:2 (SUB v2 v3)) (YIELD 1) 2)", "3"}, {"(CALL (FUNC:2:2 (SUB v2 v3)) 2 (YIELD 1))", "-3"},
+            {"(CALL (FUNC:2:0 (YIELD 1)))", "5"}, {"(SEQ (RETURN (YIELD 1)) 8)", "5"}, {"(PRINT (YIELD 1))", "5"},
+            {"(RESUME (CREATE (FUNC:2:1 v2)) (YIELD 1))", "5"}, {"(YIELD (YIELD 1))", "5"}};
+        for (String[] list : lists) {
+            // The first YIELD gets 5; where there are two, the second one gives its value.
+            script("(LOCAL:0 (CREATE (FUNC:1:0 " + list[0] + ")) (PRINT (RESUME v0 9)) (RESUME v0 5))")
+                    .gives(Integer.parseInt(list[1]));
+        }
+        script("(LOCAL:0 (CREATE (FUNC:1:0 (ERROR (YIELD 1)))) (RESUME v0 9) (RESUME v0 5) (FAULT))").gives(5);
+        script("(LOCAL:0 (CREATE (FUNC:1:0 (STATUS (YIELD 1)))) (RESUME v0 9) (RESUME v0 v0))").gives(1);
+        script("(LOCAL:0 (CREATE (FUNC:1:0 (CREATE (YIELD 1)))) (RESUME v0 9) (RESUME v0 (FUNC:1:0)))").givesKind(3);
+        script("(LOCAL:0 (CREATE (FUNC:1:0 (CALL (YIELD 1)))) (RESUME v0 9) (RESUME v0 (FUNC:1:0 6)))").gives(6);
+        script("(LOCAL:0 (CREATE (FUNC:1:0 (RESUME (YIELD 1) 7))) (RESUME v0 9) (RESUME v0 (CREATE (FUNC:1:1 v1))))").gives(7);
     }
 
     private static void yieldGoesToTheResumeThatLetItRun() {

@@ -301,6 +301,11 @@ public final class EdgesOfKindsTest {
             new Script(DUE, depth, 200, nested(depth, "(LOCAL:2 (CREATE (FUNC:3:0 (YIELD 1) (CALL (FUNC:3:0 8))))"
                     + " (RESUME v2 0) (CALL (FUNC:3:0 (RESUME (CREATE v0) 1))))")).gives(depth).beats(depth + 2);
         }
+        // Its own calls are in progress still while it waits, and after.
+        String calls = "(LOCAL:0 (CREATE (FUNC:1:0 (CALL (FUNC:1:0 (YIELD 1) (CALL (FUNC:1:0 8))))))"
+                + " (RESUME v0 0) (PRINT (RESUME v0 0)) (FAULT))";
+        new Script(DUE, 2, 200, calls).gives(4).prints(Script.NIL).beats(3);
+        new Script(DUE, 3, 200, calls).gives(0).prints(8).beats(4);
     }
 
     private static void callsThatHaveEnded() {
